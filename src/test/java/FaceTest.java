@@ -27,7 +27,7 @@ public final class FaceTest {
     due("constructors", constructors.length, 1);
     due("the constructor", constructors[0].toString(), "public ChainSolves()");
     for (Class<?> inside : face.getDeclaredClasses()) {
-      due("static: " + inside, Modifier.isStatic(inside.getModifiers()), true);
+      due("private or package-visible: " + inside, (inside.getModifiers() & (Modifier.PUBLIC | Modifier.PROTECTED)) == 0, true);
       onlyFinalStatics(inside);
       noNameOfTheFace(face, inside);
     }
@@ -65,9 +65,9 @@ public final class FaceTest {
 
   private static void noNameOfTheFace(Class<?> face, Class<?> c) {
     for (Method m : c.getDeclaredMethods()) {
-      if (Modifier.isPublic(m.getModifiers())) continue;
-      for (Method open : face.getMethods()) {
-        due("a name of its own: " + m, !m.getName().equals(open.getName()), true);
+      if (!Modifier.isPrivate(m.getModifiers())) continue;
+      for (Method open : face.getDeclaredMethods()) {
+        if (Modifier.isPublic(open.getModifiers())) due("a name of its own: " + m, !m.getName().equals(open.getName()), true);
       }
     }
   }

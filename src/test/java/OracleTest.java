@@ -8,11 +8,12 @@ import java.util.Random;
  * An argument sets the number of runs.
  */
 public final class OracleTest {
-  private static final int CALLS = 500;
+  /** Each call is followed by upper() and lower(): an object is used for 512 calls at most. */
+  private static final int CALLS = 170;
   private static int wrong = 0;
 
   public static void main(String[] args) {
-    int runs = args.length > 0 ? Integer.parseInt(args[0]) : 150;
+    int runs = args.length > 0 ? Integer.parseInt(args[0]) : 400;
     Random dice = new Random(args.length > 1 ? Long.parseLong(args[1]) : 20261115L);
     for (int run = 0; run < runs && wrong < 20; run++) oneRun(run, dice);
     System.out.println(wrong == 0 ? "all answers are those of the model" : wrong + " answers are not those of the model");
